@@ -40,12 +40,17 @@ public final class FaceTest {
         Check.due("FULL", JourneyRoads.FULL, -1000000004);
     }
 
-    private static void methods() {
-        Set<String> wanted = new TreeSet<>(Arrays.asList(METHODS));
+    private static Set<String> publicNames() {
         Set<String> names = new TreeSet<>();
         for (String method : METHODS) {
             names.add(method.substring(0, method.indexOf('(')));
         }
+        return names;
+    }
+
+    private static void methods() {
+        Set<String> wanted = new TreeSet<>(Arrays.asList(METHODS));
+        Set<String> names = publicNames();
         Set<String> found = new TreeSet<>();
         for (Method m : JourneyRoads.class.getDeclaredMethods()) {
             if (Modifier.isPublic(m.getModifiers())) {
@@ -86,6 +91,7 @@ public final class FaceTest {
             holds(inside + " is not of the face", !Modifier.isPublic(is) && !Modifier.isProtected(is));
             for (Method m : inside.getDeclaredMethods()) {
                 holds(m + " has seven parameters at most", m.getParameterCount() <= 7);
+                holds(m + " bears no public name", !publicNames().contains(m.getName()));
             }
         }
     }

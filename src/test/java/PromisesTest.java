@@ -1,9 +1,8 @@
-/** For each promise ordinary inputs, the edges that the document names, and wrong inputs; answers worked out by hand. */
+/** For each promise ordinary inputs, edges and wrong inputs; answers worked out by hand. */
 public final class PromisesTest {
-    private static final int NONE = -1, UNKNOWN = -1000000001, OUTSIDE = -1000000002, NOT = -1000000003, FULL = -1000000004;
-    private static final int LEAST = Integer.MIN_VALUE, MOST = Integer.MAX_VALUE;
-    // Two TOWNS with WORK in every month, 1 and 2 LEARNT, one ROAD; one may STAY one month.
-    private static final String PAIR = "l1 0;t50 4095 1;t60 4095 2;r0 1;";
+    private static final int NONE = Check.NONE, UNKNOWN = Check.UNKNOWN, OUTSIDE = Check.OUTSIDE, NOT = Check.NOT, FULL = Check.FULL;
+    private static final int LEAST = Check.LEAST, MOST = Check.MOST;
+    private static final String PAIR = Check.PAIR;
 
     public static void main(String[] args) {
         newObject();
@@ -51,16 +50,11 @@ public final class PromisesTest {
     }
 
     private static void stays(JourneyRoads x, int n) {
-        for (int i = 0; i < n; i++) {
-            x.stay();
-        }
+        Check.stays(x, n);
     }
 
-    /** In PAIR: goes to and fro for n months. */
     private static void walks(JourneyRoads x, int n) {
-        for (int i = 0; i < n; i++) {
-            x.walk(1 - x.told(6));
-        }
+        Check.walks(x, n);
     }
 
     private static void newObject() {
@@ -316,42 +310,6 @@ public final class PromisesTest {
         x.walk(2);
         due("8: WORK by which nothing is LEARNT", x.stay(), 0);
         due("8: gives a SEAL", x.told(9), 5);
-        fullMonths();
-    }
-
-    private static void fullMonths() {
-        JourneyRoads x = land("l4 0;" + "t50 4095 1;".repeat(5) + "r0 1;r0 2;r0 3;r0 4;r1 2;r1 3;r1 4;r2 3;r2 4;r3 4;");
-        for (int i = 0; i < 400 && x.told(5) < 8960; i++) {
-            x.drift(40);
-        }
-        for (int r = 0; r < 10; r++) {
-            x.war(r, false);
-        }
-        while (x.told(6) > 1) {
-            x.walk(0);
-        }
-        for (int i = 0; i < 60 && x.told(5) < 9000; i++) {
-            x.walk(1 - x.told(6));
-        }
-        due("8: 9000 months", x.told(5), 9000);
-        x.keep(0);
-        due("8: stay() behind 9000 months", x.stay(), 1);
-        due("8: stay() behind 9001", x.stay(), FULL);
-        due("9: walk() behind 9001", x.walk(1 - x.told(6)), FULL);
-        due("9: NOT ahead of FULL", x.walk(x.told(6)), NOT);
-        due("9: UNKNOWN ahead of FULL", x.walk(5), UNKNOWN);
-        due("12: drift() behind 9001", x.drift(1), FULL);
-        due("12: OUTSIDE ahead of FULL", x.drift(41), OUTSIDE);
-        due("14: may(1) behind 9001", x.may(1), 1);
-        due("16: best() behind 9001", x.best(1, NONE), 1);
-        x.goBack(0);
-        due("9: walk() behind 9000", x.walk(1 - x.told(6)), 9001);
-        x.goBack(0);
-        due("12: drift() behind 9000", x.drift(40) >= 0 ? 1 : 0, 1);
-        due("12: goes beyond", x.told(5) > 9001 ? 1 : 0, 1);
-        x.home();
-        due("8: NOT ahead of FULL", x.stay(), NOT);
-        due("12: NOT ahead of FULL", x.drift(1), NOT);
     }
 
     private static void walk() {

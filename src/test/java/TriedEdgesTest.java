@@ -198,6 +198,9 @@ public final class TriedEdgesTest {
         x.undo();
         Check.due("undone", x.seals(255), 1);
         Check.due("but the last", x.seals(127), 0);
+        JourneyRoads waits = land("l4 0;t0 4095 0;t60 256 0;r0 1;");
+        waits.stay();
+        Check.due("he keeps a SEAL while he waits where he has it", waits.seals(3), 8);
     }
 
     private static void sealsAtMost() {
@@ -215,7 +218,10 @@ public final class TriedEdgesTest {
         Check.due("month 9", land("l4 0;t0 4095 0;t60 512 0;r0 1;").seals(2), NONE);
         Check.due("no ROAD", land("l4 0;t50 4095 0;t60 4095 0;").seals(2), NONE);
         Check.due("no ROAD, one of both", land("l4 0;t50 4095 0;t60 4095 0;").seals(3), NONE);
+        Check.due("no ROAD to the third", land("l4 0;t50 4095 0;t60 4095 0;t70 4095 0;r0 1;").seals(4), NONE);
         Check.due("no WORK", land("l4 0;t50 0 0;t60 4095 0;r0 1;").seals(1), NONE);
+        Check.due("no WORK in the first of eight", land(LINE.replace("l1 0;t50 4095", "l4 0;t50 0")).seals(129), NONE);
+        Check.due("no WORK in the last of eight", land(LINE.replace("l1", "l4").replace("t50 4095 0;r0", "t50 0 0;r0")).seals(128), NONE);
         Check.due("a BANNED TOWN", land("l4 0;t50 4095 0;t49 4095 0;r0 1;").seals(2), NONE);
     }
 

@@ -437,6 +437,7 @@ public final class JourneyRoads {
         int firstMonth;
         int towns;
         int roads;
+        private int banned;
         final int[] miles = new int[MAX_TOWNS];
         final int[] work = new int[MAX_TOWNS];
         final int[] gain = new int[MAX_TOWNS];
@@ -448,6 +449,7 @@ public final class JourneyRoads {
             firstMonth = 0;
             towns = 0;
             roads = 0;
+            banned = 0;
         }
 
         void addTown(int mile, int months, int learns) {
@@ -455,6 +457,7 @@ public final class JourneyRoads {
                 miles[towns] = mile;
                 work[towns] = months;
                 gain[towns] = learns;
+                banned |= mile < BANNED_MILES ? 1 << towns : 0;
                 towns++;
             }
         }
@@ -480,11 +483,11 @@ public final class JourneyRoads {
         }
 
         boolean isBanned(int t) {
-            return miles[t] < BANNED_MILES;
+            return (banned >> t & 1) != 0;
         }
 
         boolean worksIn(int t, int month) {
-            return (work[t] >> (firstMonth + month) % YEAR & 1) != 0;
+            return hasTown(t) && (work[t] >> (firstMonth + month) % YEAR & 1) != 0;
         }
 
         int gainIn(int t, int month) {
@@ -508,13 +511,7 @@ public final class JourneyRoads {
 
         /** The TOWNS to which one may WALK from a TOWN. */
         int walksFrom(int t, int shut) {
-            int set = neighbours(t, shut);
-            for (int u = 0; u < towns; u++) {
-                if (isBanned(u)) {
-                    set &= ~(1 << u);
-                }
-            }
-            return set;
+            return neighbours(t, shut) & ~banned;
         }
 
         void fillExits(int[] exits, int shut) {
@@ -786,7 +783,8 @@ public final class JourneyRoads {
         }
 
         int mostFrom(int k, int t, int s) {
-            return most[k * ROW + t * STAYS + s];
+            int at = k * ROW + t * STAYS + s;
+            return at >= 0 && at < most.length ? most[at] : NONE;
         }
 
         /** The TOWN behind the i-th month of the first of the best ways; there must be one. */
@@ -797,7 +795,7 @@ public final class JourneyRoads {
                 if (staysFirst(country, journey.months, k, t, s)) {
                     s++;
                 } else {
-                    t = walksFirst(country, exits[t], k, mostFrom(k, t, s), t);
+                    t = walksFirst(country, exitsOf(1 << t, exits), k, mostFrom(k, t, s), t);
                     s = 0;
                 }
             }
@@ -873,7 +871,11 @@ public final class JourneyRoads {
             clear(now);
             // SEALS that are not asked for are left out, so the aim is one SET alone.
             int had = journey.sealed & set;
-            now[cell(journey.here, journey.stayed) + (had >> 6)] = 1L << (had & 63);
+            int first = cell(journey.here, journey.stayed) + (had >> 6);
+            if (first < 0 || first >= CELLS) {
+                return NONE;
+            }
+            now[first] = 1L << (had & 63);
             for (int months = 0; months <= MAX_SEALS; months++) {
                 if (holds(country, set)) {
                     return months;

@@ -3,6 +3,7 @@ public final class PromisesTest {
     private static final int NONE = Check.NONE, UNKNOWN = Check.UNKNOWN, OUTSIDE = Check.OUTSIDE, NOT = Check.NOT, FULL = Check.FULL;
     private static final int LEAST = Check.LEAST, MOST = Check.MOST;
     private static final String PAIR = Check.PAIR;
+    private static final int[] ROWS = new int[33];
 
     public static void main(String[] args) {
         newObject();
@@ -38,10 +39,15 @@ public final class PromisesTest {
         seed();
         keep();
         goBack();
+        for (int promise = 1; promise < ROWS.length; promise++) {
+            Check.holds("the promise " + promise + " has a row", ROWS[promise] > 0);
+        }
         Check.end("PromisesTest");
     }
 
+    /** Each row names its promise first. */
     private static void due(String call, int got, int want) {
+        ROWS[Integer.parseInt(call.substring(0, call.indexOf(':')))]++;
         Check.due(call, got, want);
     }
 
